@@ -10,13 +10,23 @@ final class Check {
     private Check() {
     }
 
-    /** What a call answers, or "throws." and the simple name of what it throws. */
+    /** What a call answers, or "throws." and the simple name of what it throws by itself. */
     static Object outcomeOf(Call call) {
         try {
             return call.run();
         } catch (RuntimeException e) {
-            return "throws." + e.getClass().getSimpleName();
+            String thrower = isThrownByTheMachine(e) ? "machine." : "throws.";
+            return thrower + e.getClass().getSimpleName();
         }
+    }
+
+    /** The class may throw by a throw statement of its own alone. */
+    private static boolean isThrownByTheMachine(RuntimeException e) {
+        StackTraceElement[] trace = e.getStackTrace();
+        return trace.length == 0
+                || trace[0].getClassName().startsWith("java.")
+                || trace[0].getClassName().startsWith("jdk.")
+                || "/ by zero".equals(e.getMessage());
     }
 
     static void due(String what, Object want, Call call) {

@@ -66,6 +66,9 @@ public final class DocumentTest {
     private static void cutsAtAbbreviations() {
         Fuzzyseg x = new Fuzzyseg();
         x.addAbbreviation(4);
+        x.addAbbreviation(0);
+        x.addAbbreviation(99);
+        cut(x, "w0 . w99 . w98 . w1", "0 46 99 46 98 46", "1");
         cut(x, "w4 . w5", "4 46 5");
         cut(x, "w4 .", "4 46");
         cut(x, "w4 . . w5", "4 46 46", "5");
@@ -278,6 +281,8 @@ public final class DocumentTest {
         Check.badIndex("32 segment " + segment, () -> x.segmentToken(segment, 0));
         Check.badIndex("33 segment " + segment, () -> x.targetLength(segment));
         Check.badIndex("34 segment " + segment, () -> x.targetToken(segment, 0));
+        Check.badIndex("34 segment " + segment + ", token -1", () -> x.targetToken(segment, -1));
+        Check.badIndex("35 segment " + segment + ", token -1", () -> x.targetKind(segment, -1));
         Check.badIndex("35 segment " + segment, () -> x.targetKind(segment, 0));
     }
 

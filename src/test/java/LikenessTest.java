@@ -2,6 +2,7 @@
 public final class LikenessTest {
     public static void main(String[] args) {
         costs();
+        fromEndsAlone();
         oddWeights();
         longTexts();
         likeness();
@@ -11,7 +12,9 @@ public final class LikenessTest {
         scoreAndLikenessOfTheBest();
         theLaterOfEqualOnes();
         notOffered();
+        scoreOne();
         sharedPairs();
+        sharedPairsAgain();
         meanLikeness();
         Check.end();
     }
@@ -37,6 +40,8 @@ public final class LikenessTest {
         cost(2, "w10", "w19");
         cost(4, "w10", "w20");
         cost(4, "w9", "w10");
+        cost(2, "w0", "w9");
+        cost(2, "w99", "w90");
         cost(1, "n1", "n9999");
         cost(1, "t1", "t2");
         cost(1, "!", "?");
@@ -51,6 +56,19 @@ public final class LikenessTest {
         cost(2, "w1 t1 w2", "w1 w2 t1");
         cost(3, "w12 n5 w30 .", "w13 n8 w30 .");
         cost(11, "w10 n1 n2", "w20 , n1 w11");
+    }
+
+    /** Nothing that another call has found may be needed. */
+    private static void fromEndsAlone() {
+        Fuzzyseg x = new Fuzzyseg();
+        Texts.unit(x, "w1 n1 w2", "w1");
+        Texts.unit(x, "n1", "w1");
+        Texts.put(x, "w1 t1 w3");
+        Check.due("17 alone", 5, () -> x.costFromEnds(0));
+        Check.due("17 alone, another unit", 11, () -> x.costFromEnds(1));
+        Check.due("17 alone, the first unit again", 5, () -> x.costFromEnds(0));
+        Check.due("16 the same", 11, () -> x.cost(1));
+        Check.due("16 the same", 5, () -> x.cost(0));
     }
 
     private static void oddWeights() {
@@ -238,6 +256,22 @@ public final class LikenessTest {
         noBest("score 0", x);
     }
 
+    private static void scoreOne() {
+        Fuzzyseg x = new Fuzzyseg();
+        x.addTerm(1, 20);
+        Texts.unit(x, "w1 w10 w20 w30 w40 w50 w60 w70 w80", "w21");
+        Texts.draft(x, "w1");
+        Check.due("18 a ninth", 11, () -> x.likeness(0));
+        Check.due("20 a ninth less 10", 1, () -> x.score(0));
+        bestIs("score 1", 0, x);
+        Texts.unit(x, "w1 w10 w20 w30 w40 w50 w60 w70 w80 w90", "w21");
+        Texts.draft(x, "w1");
+        Check.due("20 a tenth less 10", 0, () -> x.score(1));
+        bestIs("score 0 is not offered", 0, x);
+        x.withdraw(0);
+        noBest("only score 0", x);
+    }
+
     private static void pairs(int want, String text, String source) {
         Fuzzyseg x = new Fuzzyseg();
         Texts.unit(x, source, "w1");
@@ -264,6 +298,17 @@ public final class LikenessTest {
         pairs(0, "w1 w2", "w1 w3 w2");
         pairs(0, "w0 w1", "n0 w1");
         pairs(1, Texts.repeat("w1", 60), Texts.repeat("w1", 60));
+    }
+
+    private static void sharedPairsAgain() {
+        Fuzzyseg x = new Fuzzyseg();
+        Texts.unit(x, "w1 w2 w3", "w1");
+        Texts.unit(x, "w8 w9", "w1");
+        Texts.draft(x, "w1 w2 w3");
+        Check.due("21 two pairs", 2, () -> x.sharedPairs(0));
+        Check.due("21 another unit", 0, () -> x.sharedPairs(1));
+        Texts.draft(x, "w2 w3");
+        Check.due("21 another draft", 1, () -> x.sharedPairs(0));
     }
 
     private static void meanLikeness() {
