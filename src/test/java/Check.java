@@ -66,6 +66,17 @@ final class Check {
         due(what, "throws.ArithmeticException", call);
     }
 
+    /** The best unit in both ways. */
+    static void bestIs(String what, int want, Fuzzyseg x) {
+        due("22 " + what, want, () -> x.best());
+        due("23 " + what, want, () -> x.bestOfAll());
+    }
+
+    static void noBest(String what, Fuzzyseg x) {
+        noElement("22 " + what, () -> x.best());
+        noElement("23 " + what, () -> x.bestOfAll());
+    }
+
     static void end() {
         System.out.println(right + " answers right, " + wrong + " wrong");
         if (wrong != 0 || right == 0) {

@@ -8,12 +8,10 @@ public final class DocumentTest {
         fillThresholds();
         fillRepeats();
         fillTakesTheBest();
-        adaptedNumbers();
         answer();
         answerAgain();
         answerReplacesFillings();
         answerKeepsTheTakenSource();
-        wrongSegments();
         wrongTokens();
         kinds();
         repeats();
@@ -24,6 +22,18 @@ public final class DocumentTest {
     }
 
     /** Each segment is due as its values, the codes of marks among them. */
+    private static void cut(String document, String... want) {
+        cut(new Fuzzyseg(), document, want);
+    }
+
+    private static void cutAtAbbreviations(String document, String... want) {
+        Fuzzyseg x = new Fuzzyseg();
+        x.addAbbreviation(4);
+        x.addAbbreviation(0);
+        x.addAbbreviation(99);
+        cut(x, document, want);
+    }
+
     private static void cut(Fuzzyseg x, String document, String... want) {
         Check.due("24 " + document, want.length, () -> Texts.document(x, document));
         Check.due("25 " + document, want.length, () -> x.segments());
@@ -35,51 +45,46 @@ public final class DocumentTest {
     }
 
     private static void cuts() {
-        Fuzzyseg x = new Fuzzyseg();
-        cut(x, "w1", "1");
-        cut(x, "w1 .", "1 46");
-        cut(x, "w1 . w2", "1 46", "2");
-        cut(x, "w1 ! w2 ? w3 .", "1 33", "2 63", "3 46");
-        cut(x, "w1 , w2 ; w3", "1 44 2 59 3");
-        cut(x, "n1 . n2", "1 46 2");
-        cut(x, "n1 . w2", "1 46", "2");
-        cut(x, "w1 . n2", "1 46", "2");
-        cut(x, "n1 .", "1 46");
-        cut(x, ". n1", "46", "1");
-        cut(x, "n1 ! n2", "1 33", "2");
-        cut(x, "n1 t1 . n2", "1 1 46", "2");
-        cut(x, "n1 . t1 n2", "1 46 1", "2");
-        cut(x, "w1 . t1 t2 w3", "1 46 1 2", "3");
-        cut(x, "w1 ! t1 t2", "1 33 1 2");
-        cut(x, "w1 ! t1 . t2 w3", "1 33 1", "46 2", "3");
-        cut(x, "t1 t2 w3 t4 ? t5", "1 2 3 4 63 5");
-        cut(x, ". . .", "46", "46", "46");
-        cut(x, "! t1 ? t2", "33 1", "63 2");
-        cut(x, "t1 t2", "1 2");
-        cut(x, "w1 , t1 w2", "1 44 1 2");
-        cut(x, "n1 . n2 . n3 . w4", "1 46 2 46 3 46", "4");
+        cut("w1", "1");
+        cut("w1 .", "1 46");
+        cut("w1 . w2", "1 46", "2");
+        cut("w1 ! w2 ? w3 .", "1 33", "2 63", "3 46");
+        cut("w1 , w2 ; w3", "1 44 2 59 3");
+        cut("n1 . n2", "1 46 2");
+        cut("n1 . w2", "1 46", "2");
+        cut("w1 . n2", "1 46", "2");
+        cut("n1 .", "1 46");
+        cut(". n1", "46", "1");
+        cut("n1 ! n2", "1 33", "2");
+        cut("n1 t1 . n2", "1 1 46", "2");
+        cut("n1 . t1 n2", "1 46 1", "2");
+        cut("w1 . t1 t2 w3", "1 46 1 2", "3");
+        cut("w1 ! t1 t2", "1 33 1 2");
+        cut("w1 ! t1 . t2 w3", "1 33 1", "46 2", "3");
+        cut("t1 t2 w3 t4 ? t5", "1 2 3 4 63 5");
+        cut(". . .", "46", "46", "46");
+        cut("! t1 ? t2", "33 1", "63 2");
+        cut("t1 t2", "1 2");
+        cut("w1 , t1 w2", "1 44 1 2");
+        cut("n1 . n2 . n3 . w4", "1 46 2 46 3 46", "4");
         String[] sixty = new String[60];
         java.util.Arrays.fill(sixty, "33");
-        cut(x, Texts.repeat("!", 60), sixty);
+        cut(Texts.repeat("!", 60), sixty);
     }
 
     private static void cutsAtAbbreviations() {
-        Fuzzyseg x = new Fuzzyseg();
-        x.addAbbreviation(4);
-        x.addAbbreviation(0);
-        x.addAbbreviation(99);
-        cut(x, "w0 . w99 . w98 . w1", "0 46 99 46 98 46", "1");
-        cut(x, "w4 . w5", "4 46 5");
-        cut(x, "w4 .", "4 46");
-        cut(x, "w4 . . w5", "4 46 46", "5");
-        cut(x, "w4 ! w5", "4 33", "5");
-        cut(x, "w4 ? w5", "4 63", "5");
-        cut(x, "w5 . w4", "5 46", "4");
-        cut(x, "w4 t1 . w5", "4 1 46", "5");
-        cut(x, "w4 . t1 w5", "4 46 1 5");
-        cut(x, "n4 . w5", "4 46", "5");
-        cut(x, "t4 . w5", "4 46", "5");
-        cut(x, "w4 . n1 . n2 . w4", "4 46 1 46 2 46", "4");
+        cutAtAbbreviations("w0 . w99 . w98 . w1", "0 46 99 46 98 46", "1");
+        cutAtAbbreviations("w4 . w5", "4 46 5");
+        cutAtAbbreviations("w4 .", "4 46");
+        cutAtAbbreviations("w4 . . w5", "4 46 46", "5");
+        cutAtAbbreviations("w4 ! w5", "4 33", "5");
+        cutAtAbbreviations("w4 ? w5", "4 63", "5");
+        cutAtAbbreviations("w5 . w4", "5 46", "4");
+        cutAtAbbreviations("w4 t1 . w5", "4 1 46", "5");
+        cutAtAbbreviations("w4 . t1 w5", "4 46 1 5");
+        cutAtAbbreviations("n4 . w5", "4 46", "5");
+        cutAtAbbreviations("t4 . w5", "4 46", "5");
+        cutAtAbbreviations("w4 . n1 . n2 . w4", "4 46 1 46 2 46", "4");
     }
 
     private static void open() {
@@ -169,28 +174,6 @@ public final class DocumentTest {
         Check.due("29 the live one", 0, () -> x.unitOf(0));
     }
 
-    private static void adapted(String want, String source, String target, String segment) {
-        Fuzzyseg x = new Fuzzyseg();
-        Texts.unit(x, source, target);
-        Texts.document(x, segment);
-        x.fill(1);
-        Check.due("26 " + segment + " by " + source, want, () -> Texts.target(x, 0));
-    }
-
-    private static void adaptedNumbers() {
-        adapted("w70 n8 w81 .", "w12 n5 w30 .", "w70 n5 w81 .", "w13 n8 w30 .");
-        adapted("n4 n3", "w1 n1 w2 n2", "n2 n1", "w1 n3 w2 n4");
-        adapted("n3 n3 n9", "w1 n1 w2 n2", "n1 n1 n9", "w1 n3 w2 n4");
-        adapted("n3 n3", "w1 n1 w2 n1", "n1 n1", "w1 n3 w2 n4");
-        adapted("n2 n1", "w1 n1 w2 n2", "n1 n2", "w1 n2 w2 n1");
-        adapted("n1 n2", "w1 n1 w2 n2", "n1 n2", "w1 n3 w2");
-        adapted("n1 n2", "w1 n1 w2 n2", "n1 n2", "w1 n3 w2 n4 n5");
-        adapted("n1 w2", "w1 w2", "n1 w2", "w1 w3");
-        adapted("w1 t1 n0", "w1 n1", "w1 t1 n1", "w1 n0");
-        adapted("n5 n5", "n1 n1 w1", "n1 n1", "n5 n6 w1");
-        adapted("n8 , n7 n6 n9", "n1 t1 n2 w1 n3", "n3 , n2 n1 n9", "n6 n7 w1 n8");
-    }
-
     private static void answer() {
         Fuzzyseg x = new Fuzzyseg();
         Texts.document(x, "w7 . w7 . w8 . w7 .");
@@ -260,30 +243,6 @@ public final class DocumentTest {
         Check.due("11 the source is there still", 1, () -> x.addUnit());
         Texts.put(x, "w1 w2");
         Check.due("11 it is the source that was taken", 100, () -> x.likeness(1));
-    }
-
-    private static void wrongSegments() {
-        Fuzzyseg x = new Fuzzyseg();
-        noSuchSegment(x, 0);
-        Texts.document(x, "w1 . w2");
-        Texts.put(x, "w1");
-        for (int segment : new int[] {-1, 2, 60, Integer.MIN_VALUE, Integer.MAX_VALUE}) {
-            noSuchSegment(x, segment);
-        }
-    }
-
-    private static void noSuchSegment(Fuzzyseg x, int segment) {
-        Check.badIndex("27 segment " + segment, () -> x.answer(segment));
-        Check.badIndex("28 segment " + segment, () -> x.stateOf(segment));
-        Check.badIndex("29 segment " + segment, () -> x.unitOf(segment));
-        Check.badIndex("30 segment " + segment, () -> x.scoreOf(segment));
-        Check.badIndex("31 segment " + segment, () -> x.segmentLength(segment));
-        Check.badIndex("32 segment " + segment, () -> x.segmentToken(segment, 0));
-        Check.badIndex("33 segment " + segment, () -> x.targetLength(segment));
-        Check.badIndex("34 segment " + segment, () -> x.targetToken(segment, 0));
-        Check.badIndex("34 segment " + segment + ", token -1", () -> x.targetToken(segment, -1));
-        Check.badIndex("35 segment " + segment + ", token -1", () -> x.targetKind(segment, -1));
-        Check.badIndex("35 segment " + segment, () -> x.targetKind(segment, 0));
     }
 
     private static void wrongTokens() {

@@ -2,14 +2,9 @@
 public final class DraftTest {
     public static void main(String[] args) {
         newObject();
-        words();
-        numbers();
-        tags();
         marks();
-        fullDraft();
         clear();
         weights();
-        weightsOutOfRange();
         abbreviations();
         Check.end();
     }
@@ -32,37 +27,6 @@ public final class DraftTest {
         }
     }
 
-    private static void words() {
-        Fuzzyseg x = new Fuzzyseg();
-        Check.due("2 word 0", 1, () -> x.word(0));
-        Check.due("2 word 99", 2, () -> x.word(99));
-        Check.badArgument("2 word -1", () -> x.word(-1));
-        Check.badArgument("2 word 100", () -> x.word(100));
-        Check.badArgument("2 least word", () -> x.word(Integer.MIN_VALUE));
-        Check.badArgument("2 greatest word", () -> x.word(Integer.MAX_VALUE));
-        Check.due("2 two words", 2, () -> x.clear());
-    }
-
-    private static void numbers() {
-        Fuzzyseg x = new Fuzzyseg();
-        Check.due("3 number 0", 1, () -> x.number(0));
-        Check.due("3 number 9999", 2, () -> x.number(9999));
-        Check.badArgument("3 number -1", () -> x.number(-1));
-        Check.badArgument("3 number 10000", () -> x.number(10000));
-        Check.due("3 two numbers", 1, () -> x.open());
-        Check.due("3 value 0", 0, () -> x.segmentToken(0, 0));
-        Check.due("3 value 9999", 9999, () -> x.segmentToken(0, 1));
-    }
-
-    private static void tags() {
-        Fuzzyseg x = new Fuzzyseg();
-        Check.due("4 tag 0", 1, () -> x.tag(0));
-        Check.due("4 tag 9", 2, () -> x.tag(9));
-        Check.badArgument("4 tag -1", () -> x.tag(-1));
-        Check.badArgument("4 tag 10", () -> x.tag(10));
-        Check.due("4 two tags", 2, () -> x.clear());
-    }
-
     private static void marks() {
         Fuzzyseg x = new Fuzzyseg();
         int length = 0;
@@ -77,22 +41,6 @@ public final class DraftTest {
         }
         Check.badArgument("5 greatest mark", () -> x.mark((char) 65535));
         Check.due("5 five marks", 5, () -> x.clear());
-    }
-
-    private static void fullDraft() {
-        Fuzzyseg x = new Fuzzyseg();
-        Texts.put(x, Texts.repeat("w1", 59));
-        Check.due("2 the sixtieth", 60, () -> x.word(2));
-        Check.badState("2 full", () -> x.word(1));
-        Check.badState("3 full", () -> x.number(1));
-        Check.badState("4 full", () -> x.tag(1));
-        Check.badState("5 full", () -> x.mark('.'));
-        Check.badArgument("2 full and out of range", () -> x.word(100));
-        Check.badArgument("3 full and out of range", () -> x.number(10000));
-        Check.badArgument("4 full and out of range", () -> x.tag(10));
-        Check.badArgument("5 full and no mark", () -> x.mark(':'));
-        Check.due("6 sixty", 60, () -> x.clear());
-        Check.due("2 room again", 1, () -> x.word(1));
     }
 
     private static void clear() {
@@ -118,20 +66,6 @@ public final class DraftTest {
         Check.due("7 the same again", 1, () -> x.setWeights(1, 1, 1, 1));
         Check.due("7 greatest", 1, () -> x.setWeights(9, 9, 9, 9));
         Check.due("7 all 9", 45L, () -> x.openWeight());
-    }
-
-    private static void weightsOutOfRange() {
-        Fuzzyseg x = new Fuzzyseg();
-        Texts.document(x, "w1 n1 t1 ,");
-        int[] bad = {0, 10, -1, Integer.MIN_VALUE, Integer.MAX_VALUE};
-        for (int value : bad) {
-            Check.badArgument("7 word " + value, () -> x.setWeights(value, 5, 5, 5));
-            Check.badArgument("7 number " + value, () -> x.setWeights(5, value, 5, 5));
-            Check.badArgument("7 tag " + value, () -> x.setWeights(5, 5, value, 5));
-            Check.badArgument("7 mark " + value, () -> x.setWeights(5, 5, 5, value));
-        }
-        Check.due("7 unchanged", 8L, () -> x.openWeight());
-        Check.due("7 words unchanged", 4, () -> x.setWeights(5, 5, 5, 5));
     }
 
     private static void abbreviations() {

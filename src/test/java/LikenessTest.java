@@ -6,7 +6,6 @@ public final class LikenessTest {
         oddWeights();
         longTexts();
         likeness();
-        wrongCalls();
         missing();
         score();
         scoreAndLikenessOfTheBest();
@@ -135,33 +134,6 @@ public final class LikenessTest {
         likeness(80, "w1", "w1 t1");
     }
 
-    private static void wrongCalls() {
-        Fuzzyseg x = new Fuzzyseg();
-        Texts.unit(x, "w1", "w2");
-        Check.badState("16 empty draft", () -> x.cost(0));
-        Check.badState("17 empty draft", () -> x.costFromEnds(0));
-        Check.badState("18 empty draft", () -> x.likeness(0));
-        Check.badState("19 empty draft", () -> x.missing(0));
-        Check.badState("20 empty draft", () -> x.score(0));
-        Check.badState("21 empty draft", () -> x.sharedPairs(0));
-        for (int unit : new int[] {-1, 1, Integer.MIN_VALUE, Integer.MAX_VALUE}) {
-            noSuchUnit(x, unit);
-        }
-        Texts.put(x, "w1");
-        for (int unit : new int[] {-1, 1}) {
-            noSuchUnit(x, unit);
-        }
-    }
-
-    private static void noSuchUnit(Fuzzyseg x, int unit) {
-        Check.noElement("16 unit " + unit, () -> x.cost(unit));
-        Check.noElement("17 unit " + unit, () -> x.costFromEnds(unit));
-        Check.noElement("18 unit " + unit, () -> x.likeness(unit));
-        Check.noElement("19 unit " + unit, () -> x.missing(unit));
-        Check.noElement("20 unit " + unit, () -> x.score(unit));
-        Check.noElement("21 unit " + unit, () -> x.sharedPairs(unit));
-    }
-
     private static void missing() {
         Fuzzyseg x = new Fuzzyseg();
         x.addTerm(1, 60);
@@ -196,16 +168,6 @@ public final class LikenessTest {
         Check.due("20 withdrawn", 66, () -> x.score(0));
     }
 
-    private static void bestIs(String what, int want, Fuzzyseg x) {
-        Check.due("22 " + what, want, () -> x.best());
-        Check.due("23 " + what, want, () -> x.bestOfAll());
-    }
-
-    private static void noBest(String what, Fuzzyseg x) {
-        Check.noElement("22 " + what, () -> x.best());
-        Check.noElement("23 " + what, () -> x.bestOfAll());
-    }
-
     private static void scoreAndLikenessOfTheBest() {
         Fuzzyseg x = new Fuzzyseg();
         Check.badState("22 empty draft", () -> x.best());
@@ -218,9 +180,9 @@ public final class LikenessTest {
         Texts.draft(x, source);
         Check.due("20 like and missed", 90, () -> x.score(0));
         Check.due("20 less like and not missed", 90, () -> x.score(1));
-        bestIs("of equal scores the greatest likeness", 0, x);
+        Check.bestIs("of equal scores the greatest likeness", 0, x);
         x.withdraw(0);
-        bestIs("the greatest score", 1, x);
+        Check.bestIs("the greatest score", 1, x);
         Check.due("22 the draft stays", 10, () -> x.clear());
     }
 
@@ -231,29 +193,29 @@ public final class LikenessTest {
         Texts.unit(x, "w1 w40", "w3");
         Texts.unit(x, "w50 w60", "w3");
         Texts.draft(x, "w1 w70");
-        bestIs("the highest number", 2, x);
+        Check.bestIs("the highest number", 2, x);
         x.withdraw(2);
-        bestIs("the highest number that is live", 1, x);
+        Check.bestIs("the highest number that is live", 1, x);
         Texts.draft(x, "w1 w20");
-        bestIs("the greatest likeness", 0, x);
+        Check.bestIs("the greatest likeness", 0, x);
     }
 
     private static void notOffered() {
         Fuzzyseg x = new Fuzzyseg();
         Texts.draft(x, "w1");
-        noBest("no units", x);
+        Check.noBest("no units", x);
         Texts.unit(x, "w90", "w1");
         Texts.draft(x, "w1");
-        noBest("nothing alike", x);
+        Check.noBest("nothing alike", x);
         Texts.unit(x, "w2", "w1");
         Texts.draft(x, "w1");
-        bestIs("half alike", 1, x);
+        Check.bestIs("half alike", 1, x);
         for (int i = 0; i < 4; i++) {
             x.addTerm(1, 20 + i);
         }
-        bestIs("score 10", 1, x);
+        Check.bestIs("score 10", 1, x);
         x.addTerm(1, 30);
-        noBest("score 0", x);
+        Check.noBest("score 0", x);
     }
 
     private static void scoreOne() {
@@ -263,13 +225,13 @@ public final class LikenessTest {
         Texts.draft(x, "w1");
         Check.due("18 a ninth", 11, () -> x.likeness(0));
         Check.due("20 a ninth less 10", 1, () -> x.score(0));
-        bestIs("score 1", 0, x);
+        Check.bestIs("score 1", 0, x);
         Texts.unit(x, "w1 w10 w20 w30 w40 w50 w60 w70 w80 w90", "w21");
         Texts.draft(x, "w1");
         Check.due("20 a tenth less 10", 0, () -> x.score(1));
-        bestIs("score 0 is not offered", 0, x);
+        Check.bestIs("score 0 is not offered", 0, x);
         x.withdraw(0);
-        noBest("only score 0", x);
+        Check.noBest("only score 0", x);
     }
 
     private static void pairs(int want, String text, String source) {

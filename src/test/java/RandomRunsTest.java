@@ -2,8 +2,9 @@ import java.util.Random;
 
 /** All promises: runs of random calls, each answer and the whole state compared with the model's. */
 public final class RandomRunsTest {
-    private static final int RUNS = 600;
-    private static final int CALLS = 250;
+    private static final int RUNS = 3000;
+    /** What later calls answer is free. */
+    private static final int MOST_CALLS = 512;
     private static final int[] WORDS = {1, 2, 11, 12, 30};
     private static final int[] NUMBERS = {0, 1, 5};
     private static final String MARKS = ".!?,;";
@@ -13,6 +14,7 @@ public final class RandomRunsTest {
     private Fuzzyseg real = new Fuzzyseg();
     private Model model = new Model();
     private String what = "";
+    private int calls = 0;
 
     private RandomRunsTest(long seed) {
         random = new Random(seed);
@@ -29,20 +31,23 @@ public final class RandomRunsTest {
 
     private void run() {
         String name = what;
-        for (int i = 0; i < CALLS; i++) {
-            what = name + ", call " + i;
+        for (int i = 0; calls < MOST_CALLS; i++) {
+            what = name + ", change " + i;
             change(random.nextInt(100));
-            if (i % 5 == 0) {
+            if (i % 6 == 0) {
                 compareQueries();
             }
-            if (i % 25 == 0) {
+            if (i % 9 == 0) {
                 compareState();
             }
         }
     }
 
     private void both(String call, Check.Call due, Check.Call asked) {
-        Check.due(what + ", " + call, Check.outcomeOf(due), asked);
+        if (calls < MOST_CALLS) {
+            calls++;
+            Check.due(what + ", " + call, Check.outcomeOf(due), asked);
+        }
     }
 
     private int oneOf(int[] values) {
@@ -154,23 +159,25 @@ public final class RandomRunsTest {
         both("openWeight", () -> model.openWeight(), () -> real.openWeight());
         both("filledShare", () -> model.filledShare(), () -> real.filledShare());
         both("isSound", () -> true, () -> real.isSound());
-        for (int i = -1; i <= model.segments(); i++) {
-            int s = i;
-            both("stateOf " + s, () -> model.stateOf(s), () -> real.stateOf(s));
-            both("unitOf " + s, () -> model.unitOf(s), () -> real.unitOf(s));
-            both("scoreOf " + s, () -> model.scoreOf(s), () -> real.scoreOf(s));
-            both("segmentLength " + s, () -> model.segmentLength(s), () -> real.segmentLength(s));
-            both("targetLength " + s, () -> model.targetLength(s), () -> real.targetLength(s));
-            int length = i < 0 || i >= model.segments() ? 1 : real.segmentLength(i);
-            for (int j = -1; j <= length; j++) {
-                int t = j;
-                both("segmentToken " + s + " " + t,
-                        () -> model.segmentToken(s, t), () -> real.segmentToken(s, t));
-                both("targetToken " + s + " " + t,
-                        () -> model.targetToken(s, t), () -> real.targetToken(s, t));
-                both("targetKind " + s + " " + t,
-                        () -> model.targetKind(s, t), () -> real.targetKind(s, t));
-            }
+        compareSegment(upTo(model.segments()));
+        compareSegment(upTo(model.segments()));
+    }
+
+    private void compareSegment(int s) {
+        both("stateOf " + s, () -> model.stateOf(s), () -> real.stateOf(s));
+        both("unitOf " + s, () -> model.unitOf(s), () -> real.unitOf(s));
+        both("scoreOf " + s, () -> model.scoreOf(s), () -> real.scoreOf(s));
+        both("segmentLength " + s, () -> model.segmentLength(s), () -> real.segmentLength(s));
+        both("targetLength " + s, () -> model.targetLength(s), () -> real.targetLength(s));
+        int length = s < 0 || s >= model.segments() ? 1 : model.segmentLength(s);
+        for (int i = -1; i <= length; i++) {
+            int t = i;
+            both("segmentToken " + s + " " + t,
+                    () -> model.segmentToken(s, t), () -> real.segmentToken(s, t));
+            both("targetToken " + s + " " + t,
+                    () -> model.targetToken(s, t), () -> real.targetToken(s, t));
+            both("targetKind " + s + " " + t,
+                    () -> model.targetKind(s, t), () -> real.targetKind(s, t));
         }
     }
 }

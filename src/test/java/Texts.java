@@ -52,7 +52,8 @@ final class Texts {
     /** The segment as values, with the codes of marks. */
     static String segment(Fuzzyseg memory, int segment) {
         StringBuilder row = new StringBuilder();
-        for (int i = 0; i < memory.segmentLength(segment); i++) {
+        int length = memory.segmentLength(segment);
+        for (int i = 0; i < length; i++) {
             row.append(i == 0 ? "" : " ").append(memory.segmentToken(segment, i));
         }
         return row.toString();
@@ -61,7 +62,8 @@ final class Texts {
     /** The target of a segment, written as in put. */
     static String target(Fuzzyseg memory, int segment) {
         StringBuilder row = new StringBuilder();
-        for (int i = 0; i < memory.targetLength(segment); i++) {
+        int length = memory.targetLength(segment);
+        for (int i = 0; i < length; i++) {
             char kind = memory.targetKind(segment, i);
             int value = memory.targetToken(segment, i);
             row.append(i == 0 ? "" : " ");
@@ -76,7 +78,8 @@ final class Texts {
 
     static String states(Fuzzyseg memory) {
         StringBuilder row = new StringBuilder();
-        for (int i = 0; i < memory.segments(); i++) {
+        int segments = memory.segments();
+        for (int i = 0; i < segments; i++) {
             row.append(memory.stateOf(i));
         }
         return row.toString();

@@ -7,7 +7,6 @@ public final class UnitsTest {
         addUnit();
         fullUnits();
         correct();
-        correctKeepsWhatWasFilled();
         withdraw();
         unitsAndIsLive();
         Check.end();
@@ -122,22 +121,6 @@ public final class UnitsTest {
         Texts.put(x, "w1");
         Check.unsupported("12 withdrawn", () -> x.correct(0));
         Check.due("12 the draft stays", 1, () -> x.clear());
-    }
-
-    private static void correctKeepsWhatWasFilled() {
-        Fuzzyseg x = new Fuzzyseg();
-        Texts.unit(x, "w1 .", "w2 .");
-        Texts.document(x, "w1 . w1 .");
-        x.fill(100);
-        Texts.put(x, "w9 w9 w9");
-        x.correct(0);
-        Check.same("12 what was filled stays", "w2 .", Texts.target(x, 0));
-        Check.same("12 what was repeated stays", "w2 .", Texts.target(x, 1));
-        Check.due("12 the state stays", 'x', () -> x.stateOf(0));
-        x.withdraw(0);
-        Check.same("13 what was filled stays", "w2 .", Texts.target(x, 0));
-        Check.due("13 the state stays", 'x', () -> x.stateOf(0));
-        Check.due("13 the unit stays", 0, () -> x.unitOf(0));
     }
 
     private static void withdraw() {
