@@ -1,11 +1,8 @@
 import java.io.IOException;
 import java.lang.reflect.Method;
-import java.net.URL;
-import java.net.URLClassLoader;
 import java.nio.file.Files;
 import java.nio.file.Path;
 import java.util.Arrays;
-import javax.tools.ToolProvider;
 
 /**
  * Promise 40: the two ways agree in the class as it is, so only a copy of it with one of them spoiled
@@ -89,16 +86,9 @@ public final class SoundTest {
             throws IOException, ReflectiveOperationException {
         String source = Files.readString(CLASS);
         Check.same("there is " + right, true, source.contains(right));
-        Path folder = Files.createDirectories(Path.of("build/sound", name));
-        Path copy = folder.resolve("Fuzzyseg.java");
-        Files.writeString(copy, source.replace(right, wrong));
-        int failed = ToolProvider.getSystemJavaCompiler().run(null, null, null,
-                "-d", folder.toString(), copy.toString());
-        Check.same("compiles: " + name, 0, failed);
-        // Left open, as it loads the classes inside when they are first used.
-        URLClassLoader loader = new URLClassLoader(new URL[] {folder.toUri().toURL()},
+        Class<?> type = Built.load("sound/" + name, "Fuzzyseg", source.replace(right, wrong),
                 ClassLoader.getPlatformClassLoader());
-        return new SoundTest(name, loader.loadClass("Fuzzyseg"));
+        return new SoundTest(name, type);
     }
 
     /** Each unit's source is one word, each segment a word and a mark. */
